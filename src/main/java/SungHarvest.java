@@ -509,7 +509,7 @@ public final class SungHarvest {
             System.arraycopy(other.rows, 0, rows, 0, SINGERS * ROW_LENGTH);
         }
 
-        /** undo() may have left another's numbers in this place, so that all of them are put. */
+        /** All that is one's own is put here, so that nothing hangs on what this place held before. */
         int enter(int kind, int v, int parts, int memory) {
             if (size >= SINGERS) {
                 return FULL;
@@ -661,7 +661,9 @@ public final class SungHarvest {
         /** FORGOT has a limit only when a DAY really goes, not in what is asked. */
         void goDay(int mostForgot) {
             for (int p = 0; p < size; p++) {
-                strains[p] = strain(p);
+                if (isHere(p)) {
+                    strains[p] = strain(p);
+                }
             }
             for (int p = 0; p < size; p++) {
                 if (isHere(p)) {

@@ -133,6 +133,10 @@ public final class DaysChoirsTest {
         due.is("15: none AWAY", x.choir(15, 0), 3);
         due.is("15: DOUBLE without", x.choir(6, 1), 7);
         due.is("15: DOUBLE no more", x.choir(1, 1), -5);
+        x.set(0, 0, 3);
+        x.set(1, 0, 1);
+        x.set(2, 0, 2);
+        due.is("15: DOUBLE by three who share one each", x.choir(3, 1), 7);
         due.is("15: what above", x.choir(256, 2), -1);
         due.is("15: what below", x.choir(1, -1), -1);
         due.is("15: parts above", x.choir(256, 0), -2);

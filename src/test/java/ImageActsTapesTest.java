@@ -6,6 +6,7 @@ public final class ImageActsTapesTest {
     public static void main(String[] args) {
         promise24();
         promises25and26();
+        imageKeepsRows();
         imageLeavesOut();
         promises27and28();
         promise29();
@@ -46,6 +47,7 @@ public final class ImageActsTapesTest {
         due.is("24: otherwise ahead of the end", x.judge(0, 4), 3);
         x.tape(0, 0, 0);
         due.is("24: a row of none", x.judge(0, 0), 100);
+        due.is("24: the last TAPE", x.judge(5, 0), 100);
     }
 
     private static void promises25and26() {
@@ -112,6 +114,47 @@ public final class ImageActsTapesTest {
         due.is("25: taken again", x.image(), 3);
         x.singer(0, 0, 0, 0);
         due.is("26: as the latest", x.undo(), 3);
+    }
+
+    /** Rows are changed without a change of how many there are. */
+    private static void imageKeepsRows() {
+        SungHarvest x = new SungHarvest();
+        for (int p = 0; p < 6; p++) {
+            x.singer(6, p, 1, 50);
+            for (int d = 0; d < 4; d++) {
+                x.row(p, d, p + d);
+            }
+        }
+        x.away(3, true);
+        x.see(3, 12, 41);
+        x.book(2, 22);
+        x.plan(1, 5);
+        x.image();
+        int[] others = {x.of(3, 8), x.looked(), x.ends(0)};
+        due.is("25: SEEN", others[0], 41);
+        due.is("25: the BOOK", others[1], 0);
+        for (int p = 0; p < 6; p++) {
+            for (int d = 0; d < 4; d++) {
+                x.row(p, d, 9);
+            }
+        }
+        x.see(-1, 0, 0);
+        x.see(4, 0, 3);
+        x.book(-1, 0);
+        x.book(3, 10);
+        x.undo();
+        due.is("26: SEEN", x.of(3, 8), 41);
+        x.away(3, false);
+        due.is("26: SEEN of SINGER 3", x.of(4, 7) + x.of(3, 7), 0);
+        x.away(3, true);
+        due.is("26: the BOOK's SACKS", x.looked(), 0);
+        x.sacks(2, 22);
+        due.is("26: the BOOK's PART", x.looked(), -5);
+        for (int p = 0; p < 6; p++) {
+            for (int d = 0; d < 4; d++) {
+                due.is("26: ROW of " + p + " on " + d, x.row(p, d, 0), p + d);
+            }
+        }
     }
 
     private static void imageLeavesOut() {
@@ -328,6 +371,11 @@ public final class ImageActsTapesTest {
         items(x, 0, "2 3 4 3 4");
         due.is("34: all onto itself", x.shift(0, 0, 0, 0, 5), 5);
         items(x, 0, "2 3 4 3 4");
+        x.tape(5, 2, 1);
+        due.is("34: to the last TAPE", x.shift(0, 1, 5, 0, 1), 1);
+        items(x, 5, "3");
+        due.is("34: from the last TAPE", x.shift(5, 0, 0, 0, 1), 1);
+        items(x, 0, "3 3 4 3 4");
     }
 
     private static void items(SungHarvest x, int tape, String dues) {

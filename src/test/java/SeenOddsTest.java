@@ -135,6 +135,8 @@ public final class SeenOddsTest {
         due.is("18: 5 by 6", y.odds(4, 0, 0), 5);
         y.set(0, 0, 32);
         y.set(2, 0, 64);
+        y.set(4, 0, 128);
+        due.is("18: PART 7", y.odds(7, 0, 0), 5);
         due.is("18: nobody HOLDS it", y.odds(0, 0, 0), 0);
         due.is("18: 0 by 1 of six", y.odds(0, 0, 1), 1);
         due.is("18: asking sends nobody away", y.told(5), 0);

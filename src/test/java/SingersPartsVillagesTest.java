@@ -107,6 +107,11 @@ public final class SingersPartsVillagesTest {
         due.is("3: HUMMER on an even DAY", x.of(5, 6), 2);
         x.pass(1);
         due.is("3: HUMMER on an odd DAY", x.of(5, 6), 2 - 9);
+        x.pass(1);
+        due.is("3: HUMMER on DAY 2", x.of(5, 6), 2);
+        x.pass(1);
+        due.is("3: HUMMER on DAY 3", x.of(5, 6), 2 - 9);
+        x.set(4, 0, 31);
         Due.village(x, "easy 7 k=2|k=4");
         due.is("3: CHILD, the half of -1", x.of(2, 6), 0);
         due.is("3: DESERTER, twice all of it", x.of(4, 6), 2 * (10 - 7 + 9));
@@ -187,6 +192,15 @@ public final class SingersPartsVillagesTest {
         // by 2 a day the CHILD forgets PART 0 on DAY 50 and then keeps PART 7 for 50 DAYS more.
         due.is("4: HEIR of what nobody HOLDS", x.part(7, 3), 4);
         due.is("4: asking teaches nobody", x.of(2, 2), 0);
+        SungHarvest y = new SungHarvest();
+        y.singer(0, 0, 192, 30);
+        y.singer(0, 0, 1, 30);
+        y.singer(0, 0, 0, 29);
+        // the first one forgets it, who HOLDS two more, on DAY 5; the third one forgets it on DAY 15, as the second one.
+        due.is("4: HEIR HOLDS the others, too", y.part(0, 3), -5);
+        y.away(1, true);
+        y.away(2, true);
+        due.is("4: HEIR, the first one", y.part(0, 3), 0);
     }
 
     private static void promise5() {
@@ -343,6 +357,13 @@ public final class SingersPartsVillagesTest {
         fault("hard 1 ()", 8);
         fault("hard 1 !", 8);
         fault("hard 1 x=1", 7);
+        fault("hard 1 =1", 7);
+        fault("hard 1 1", 7);
+        fault("hard 1 p1", 8);
+        fault("har p=1", 3);
+        fault("har1 p=1", 3);
+        fault("eas 1 p=1", 3);
+        fault("ane 1", 3);
         fault("hard 1 P=1", 7);
         fault("easy 1 !!!!!p=1", 11);
         fault("easy 1 (!(!(p=1))))", 11);
@@ -374,6 +395,8 @@ public final class SingersPartsVillagesTest {
         truth("d=2", true);
         truth("d=12", false);
         truth("n=02", true);
+        truth("n=2&(n=2)", true);
+        truth("n=2&(n=1|n=2)&(n=2|n=1)", true);
         truth("n<99", true);
         truth("!n=2", false);
         truth("!!n=2", true);
@@ -390,6 +413,12 @@ public final class SingersPartsVillagesTest {
         truth("((((n=2))))&!(!(n=1))", false);
         truth("p=3" + "|n=1".repeat(22), true);
         truth("p=2" + "|n=1".repeat(22), false);
+        for (int memory : new int[] {0, 9, 10, 50, 59, 90, 99}) {
+            SungHarvest y = new SungHarvest();
+            y.singer(0, 0, 0, memory);
+            due.is("11: reads m", Due.village(y, "hard 5 m=" + memory / 10 + ";hard 0 m<99"), 0);
+            due.is("11: m is MEMORY by 10, cut", y.of(0, 6), 5);
+        }
         SungHarvest x = new SungHarvest();
         x.singer(0, 0, 0, 99);
         due.is("11: ten clauses", Due.village(x, "hard 9 p=0" + ";anew 1".repeat(7) + ";easy 3 n=0;hard 50 n>0"), 0);
@@ -427,6 +456,11 @@ public final class SingersPartsVillagesTest {
         due.is("12: SACKS of these", x.told(3), 31);
         due.is("12: SAFE by the others", x.told(4), 6);
         due.is("12: AWAY", x.told(5), 4);
+        x.away(2, false);
+        x.set(0, 0, 65);
+        x.set(1, 0, 2);
+        x.set(2, 0, 193);
+        due.is("12: SAFE by the first and the third", x.told(4), 65);
         due.is("12: above", x.told(6), -1);
         due.is("12: below", x.told(-1), -1);
     }
