@@ -193,10 +193,10 @@ public final class SingersPartsVillagesTest {
         due.is("4: HEIR of what nobody HOLDS", x.part(7, 3), 4);
         due.is("4: asking teaches nobody", x.of(2, 2), 0);
         SungHarvest y = new SungHarvest();
-        y.singer(0, 0, 192, 30);
+        y.singer(0, 0, 192, 40);
         y.singer(0, 0, 1, 30);
         y.singer(0, 0, 0, 29);
-        // the first one forgets it, who HOLDS two more, on DAY 5; the third one forgets it on DAY 15, as the second one.
+        // the first one, who HOLDS two more, forgets it on DAY 7, the third one on DAY 15, as the second one does.
         due.is("4: HEIR HOLDS the others, too", y.part(0, 3), -5);
         y.away(1, true);
         y.away(2, true);
