@@ -549,25 +549,11 @@ public final class SungHarvest {
         }
 
         int kept() {
-            int kept = 0;
-            for (int p = 0; p < size; p++) {
-                if (isHere(p)) {
-                    kept |= held[p];
-                }
-            }
-            return kept;
+            return sungBy(~absent, false);
         }
 
         int safe() {
-            int once = 0;
-            int twice = 0;
-            for (int p = 0; p < size; p++) {
-                if (isHere(p)) {
-                    twice |= once & held[p];
-                    once |= held[p];
-                }
-            }
-            return twice;
+            return sungBy(~absent, true);
         }
 
         int sacksKept() {
@@ -609,6 +595,7 @@ public final class SungHarvest {
             return best;
         }
 
+        /** The PARTS that one of a set of SINGERS HOLDS (twofold: two of them). */
         private int sungBy(int set, boolean twofold) {
             int once = 0;
             int twice = 0;
