@@ -18,7 +18,7 @@ final class Edges {
     /** SINGERS, SEEN, the PLAN and the BOOK have no room. */
     static final String CROWDED = "singer 6 5 77 88, singer 1 2 3 60, singer 0 0 14 3, singer 5 4 160 41, "
         + "singer 4 9 255 99, singer 3 1 128 20, 2*see 2 0 3, 3*see 5 0 20, "
-        + "4*plan 0 0, 5*plan 3 2, plan 1 0, 7*book 0 10, book 7 11, say hard 9 p<6";
+        + "4*plan 0 0, 5*plan 3 2, plan 1 4, 7*book 0 10, book 7 11, say hard 9 p<6";
 
     /** There are six VILLAGES, and a text that would be one more. */
     static final String SIX_VILLAGES = "singer 3 2 7 60, say anew 11, village, say anew 12, village, say anew 13, village, "

@@ -176,7 +176,7 @@ public final class EdgesOfCallsTest {
     }
 
     private static void sacks() {
-        edges.range("7: BAD: 0 .. 99", RICH, "sacks 1 #", 0, 99, 99, BAD);
+        edges.range("7: BAD: 0 .. 99", RICH, "sacks 2 #", 0, 99, 7, BAD);
         edges.answers("7: they become 0", RICH + ", sacks 1 0", "part 1 0", 0);
         edges.answers("7: they become 99", RICH + ", sacks 7 99", "part 7 0", 99);
         edges.answers("7: the first PART", RICH, "sacks 0 1", 0);
