@@ -1,3 +1,5 @@
+import java.util.Random;
+
 /** What a VILLAGE's text may be: for what begins so, each of the 128 signs that may come next, and where the FAULT is. */
 public final class EdgesOfTextTest {
     private static final String DIGITS = "0123456789";
@@ -20,6 +22,8 @@ public final class EdgesOfTextTest {
         letters();
         numbersOfTests();
         truths();
+        manyTruthsWaiting();
+        chanceTruths();
         sums();
         due.end("edges of the text");
     }
@@ -277,6 +281,93 @@ public final class EdgesOfTextTest {
         String text = e.replace("A", a ? "v=1" : "v=2").replace("B", b ? "v=1" : "v=2").replace("C", c ? "v=1" : "v=2");
         edges.answers(e, "singer 0 1 0 0, say hard 5 " + text + ", village", "of 0 6", holds ? 5 : 0);
         edges.answers(e, "singer 0 1 0 0, say easy 5 " + text + ", village", "of 0 6", holds ? -5 : 0);
+    }
+
+    /** While the innermost is looked at, up to ten truths wait for it; none of them may change by that. */
+    private static void manyTruthsWaiting() {
+        for (int bits = 0; bits < 32; bits++) {
+            boolean a = (bits & 1) != 0;
+            boolean b = (bits & 2) != 0;
+            boolean c = (bits & 4) != 0;
+            boolean d = (bits & 8) != 0;
+            boolean e = (bits & 16) != 0;
+            five("A|B&(C|D&E)", bits, a || b && (c || d && e));
+            five("A|B&(C|D&!E)", bits, a || b && (c || d && !e));
+            five("A&(B|C&(D|E))", bits, a && (b || c && (d || e)));
+            five("A|B&(C|D|E)", bits, a || b && (c || d || e));
+            five("A|B&(C|D&(E|A&B))", bits, a || b && (c || d && (e || a && b)));
+            five("A|B&(C|D&(E|A&(B|C&D)))", bits, a || b && (c || d && (e || a && (b || c && d))));
+            five("A|B&(C|D&(E|A&(B|C&(D|E&A))))", bits, a || b && (c || d && (e || a && (b || c && (d || e && a)))));
+            five("A|B&!(C|D&!(E|A&B))", bits, a || b && !(c || d && !(e || a && b)));
+            five("A&B&(C&D&(E&A))|!A&(B|(C|(D|(E))))", bits, a && b && c && d && e || !a && (b || c || d || e));
+        }
+    }
+
+    /** Letters A to E stand for the bits' truths. */
+    private static void five(String e, int bits, boolean holds) {
+        String text = e;
+        for (int n = 0; n < 5; n++) {
+            text = text.replace("" + (char) ('A' + n), (bits >> n & 1) == 1 ? "v=1" : "v=2");
+        }
+        SungHarvest x = new SungHarvest();
+        x.singer(0, 1, 0, 0);
+        due.is(e + " by " + bits, Due.village(x, "hard 5 " + text), 0);
+        due.is(e + " by " + bits + ", STRAIN", x.of(0, 6), holds ? 5 : 0);
+    }
+
+    /** E as chance makes it, as deep as may be, in two CLAUSES; what it comes to is known as it is made. */
+    private static void chanceTruths() {
+        Random chance = new Random(7);
+        int made = 0;
+        for (int n = 0; n < 200000 && made < 8000; n++) {
+            StringBuilder text = new StringBuilder("hard 31 ");
+            boolean one = choice(chance, text, 0);
+            text.append(";easy 7 ");
+            boolean other = choice(chance, text, 0);
+            if (text.length() > 40 && text.length() <= 100) {
+                made++;
+                SungHarvest x = new SungHarvest();
+                x.singer(0, 1, 0, 0);
+                due.is(text.toString(), Due.village(x, text.toString()), 0);
+                due.is("STRAIN by " + text, x.of(0, 6), (one ? 31 : 0) - (other ? 7 : 0));
+            }
+        }
+        due.is("chance made as many", made, 8000);
+    }
+
+    private static boolean choice(Random chance, StringBuilder text, int depth) {
+        boolean holds = together(chance, text, depth);
+        while (chance.nextInt(5) < 2) {
+            text.append('|');
+            holds |= together(chance, text, depth);
+        }
+        return holds;
+    }
+
+    private static boolean together(Random chance, StringBuilder text, int depth) {
+        boolean holds = factor(chance, text, depth);
+        while (chance.nextInt(5) < 2) {
+            text.append('&');
+            holds &= factor(chance, text, depth);
+        }
+        return holds;
+    }
+
+    private static boolean factor(Random chance, StringBuilder text, int depth) {
+        int which = depth < 4 ? chance.nextInt(5) : 4;
+        if (which == 0) {
+            text.append('!');
+            return !factor(chance, text, depth + 1);
+        }
+        if (which <= 2) {
+            text.append('(');
+            boolean holds = choice(chance, text, depth + 1);
+            text.append(')');
+            return holds;
+        }
+        boolean holds = chance.nextBoolean();
+        text.append(holds ? "v=1" : "v=2");
+        return holds;
     }
 
     /** SUM: twice how many PARTS, and all hard, less all easy, together; it may be below 0. */
